@@ -16,7 +16,7 @@ public final class RingPetition {
     private static final int MOST_BUNDLED = 200;
     private static final int BASE_COUNTERS = 64;
 
-    /** Where a signature's numbers stand: the challenge, the tag, the responses behind them. */
+    /** A signature's numbers stand in one row, so that draft(), edit() and spoil() can name them by index. */
     private static final int CHALLENGE = 0;
     private static final int TAG = 1;
     private static final int RESPONSES = 2;
@@ -36,7 +36,7 @@ public final class RingPetition {
     private final int[] bundled = new int[MOST_BUNDLED];
     private int bundledCount = 0;
 
-    /** What check() reads of one signature at a time, apart from what is stored. */
+    /** Where check() reads one signature after the other: what is drafted and stored must not change by it. */
     private final KeyRow readRing = new KeyRow(MOST_IN_RING);
     private final Signature readSignature = new Signature();
     private final int[] readTags = new int[MOST_STORED];
@@ -130,7 +130,7 @@ public final class RingPetition {
         if (!new Claim(signers, about.value, about.topicBase, motion).isProvedBy(drafted)) {
             throw new IllegalArgumentException("the draft is no good signature");
         }
-        if (about.hasTag(drafted.numbers[TAG], about.storedCount) || about.storedCount >= MOST_STORED) {
+        if (about.hasAmongFirst(about.storedCount, drafted.numbers[TAG]) || about.storedCount >= MOST_STORED) {
             throw new UnsupportedOperationException("the tag is stored, or there are 8 signatures");
         }
         about.store(drafted, ring, motion);
@@ -143,7 +143,7 @@ public final class RingPetition {
 
     public boolean seen(int topic) throws IllegalArgumentException {
         Topic about = knownTopic(topic);
-        return about.hasTag(drafted.numbers[TAG], about.storedCount);
+        return about.hasAmongFirst(about.storedCount, drafted.numbers[TAG]);
     }
 
     public int recount(int topic) throws IllegalArgumentException {
@@ -256,7 +256,7 @@ public final class RingPetition {
     private boolean isStoredWell(Topic about, int k) {
         Signature signature = about.stored[k];
         Claim claim = new Claim(rings[signature.ringNumber], about.value, about.topicBase, signature.motion);
-        return claim.isProvedBy(signature) && !about.hasTag(signature.numbers[TAG], k);
+        return claim.isProvedBy(signature) && !about.hasAmongFirst(k, signature.numbers[TAG]);
     }
 
     private void addToBundle(int v) {
@@ -286,7 +286,7 @@ public final class RingPetition {
         for (int k = 0; k < signatures; k++) {
             at = endOfGoodSignature(at, base);
             int tag = readSignature.numbers[TAG];
-            if (at == UNREADABLE || Numbers.stands(tag, readTags, k)) {
+            if (at == UNREADABLE || Numbers.isAmongFirst(k, readTags, tag)) {
                 return UNREADABLE;
             }
             readTags[k] = tag;
@@ -333,7 +333,7 @@ public final class RingPetition {
         private static final int MIX_FACTOR = 0x9E3779B1;
         private static final int EXPONENT_BITS = 10;
 
-        /** The base is 0 .. 2026, the exponent 0 .. 1013. */
+        /** Ten bits are all there are, as no exponent is above Q; a base below P keeps each product an int. */
         static int power(int base, int exponent) {
             int product = 1;
             int square = base;
@@ -378,8 +378,7 @@ public final class RingPetition {
             return G;
         }
 
-        /** Whether x is among the first n of the row. */
-        static boolean stands(int x, int[] row, int n) {
+        static boolean isAmongFirst(int n, int[] row, int x) {
             for (int i = 0; i < n && i < row.length; i++) {
                 if (row[i] == x) {
                     return true;
@@ -399,7 +398,7 @@ public final class RingPetition {
         }
 
         boolean has(int key) {
-            return Numbers.stands(key, keys, size);
+            return Numbers.isAmongFirst(size, keys, key);
         }
 
         void add(int key) {
@@ -449,8 +448,7 @@ public final class RingPetition {
             topicBase = Numbers.topicBase(newValue);
         }
 
-        /** Whether one of the first n stored signatures has the tag. */
-        boolean hasTag(int tag, int n) {
+        boolean hasAmongFirst(int n, int tag) {
             for (int k = 0; k < n && k < storedCount; k++) {
                 if (stored[k].numbers[TAG] == tag) {
                     return true;
