@@ -5,6 +5,7 @@ final class Chains {
     static final int P = 2027;
     static final int Q = 1013;
     static final int G = 4;
+    private static final BigInteger MODULUS = BigInteger.valueOf(P);
 
     private Chains() {
     }
@@ -23,12 +24,11 @@ final class Chains {
     }
 
     static int power(int base, int exponent) {
-        BigInteger raised = BigInteger.valueOf(base).mod(BigInteger.valueOf(P)).pow(Math.floorMod(exponent, Q));
-        return raised.mod(BigInteger.valueOf(P)).intValue();
+        return BigInteger.valueOf(base).modPow(BigInteger.valueOf(Math.floorMod(exponent, Q)), MODULUS).intValue();
     }
 
     static boolean inGroup(int x) {
-        return x >= 1 && x < P && BigInteger.valueOf(x).pow(Q).mod(BigInteger.valueOf(P)).intValue() == 1;
+        return x >= 1 && x < P && BigInteger.valueOf(x).modPow(BigInteger.valueOf(Q), MODULUS).intValue() == 1;
     }
 
     static int base(int value) {
@@ -39,6 +39,18 @@ final class Chains {
             }
         }
         return G;
+    }
+
+    /** The secret of a key, found by trying. */
+    static int secret(int key) {
+        int power = 1;
+        for (int secret = 1; secret < Q; secret++) {
+            power = power * G % P;
+            if (power == key) {
+                return secret;
+            }
+        }
+        throw new AssertionError(key + " is no key");
     }
 
     static int[] keys(int... secrets) {

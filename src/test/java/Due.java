@@ -25,6 +25,13 @@ final class Due {
         }
     }
 
+    void same(String what, String got, String want) {
+        looked++;
+        if (!got.equals(want)) {
+            complain(what + " answered " + got + ", due is " + want);
+        }
+    }
+
     void refuses(String what, Class<? extends RuntimeException> want, Deed deed) {
         looked++;
         try {

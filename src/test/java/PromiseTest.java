@@ -1,8 +1,7 @@
 import java.util.ArrayList;
-import java.util.Arrays;
 import java.util.List;
 
-/** Each promise of the document by itself: ordinary inputs, the edges it names, and wrong inputs. */
+/** Each promise of the document by itself: ordinary inputs, and wrong ones. */
 public final class PromiseTest {
     private static final int MIN = Integer.MIN_VALUE;
     private static final int MAX = Integer.MAX_VALUE;
@@ -23,23 +22,17 @@ public final class PromiseTest {
         draft();
         edit();
         submit();
-        submitRefusesWhatOnlySeemsGood();
-        edgesOfGoodNumbers();
         count();
         seen();
         recount();
-        recountOfEqualTags();
         spoil();
         close();
         export();
-        exportOfMost();
         bundle();
         poke();
         cut();
         check();
         checkOfForeignRings();
-        checkRefusesRings();
-        checkRefusesCounts();
         due.finish("PromiseTest");
     }
 
@@ -88,12 +81,6 @@ public final class PromiseTest {
             due.is(what + ": bundle(" + i + ")", x.bundle(i), ints[i]);
         }
         due.outOfBounds(what + ": bundle(" + ints.length + ")", () -> x.bundle(ints.length));
-    }
-
-    private static void setDraft(RingPetition x, int[] numbers) {
-        for (int i = 0; i < numbers.length; i++) {
-            x.edit(i, numbers[i]);
-        }
     }
 
     private static void setBundle(RingPetition x, List<Integer> ints) {
@@ -363,62 +350,6 @@ public final class PromiseTest {
         due.is("stored for the closed topic", x.count(1), 1);
     }
 
-    /** Chains that come back, and yet are not good by a number that is none or a tag that is none. */
-    private static void submitRefusesWhatOnlySeemsGood() {
-        RingPetition x = pair();
-        x.sign(0, 0, 1, 2, 5);
-        for (int i = 0; i < 4; i++) {
-            int at = i;
-            int whole = x.draft(i);
-            int turn = i == 1 ? 2027 : 1013;
-            for (int v : new int[] {whole + turn, whole - turn, whole + 1024, whole - 1024, whole + 1, MIN, MAX}) {
-                x.edit(i, v);
-                due.illegalArgument("submit with " + v + " as number " + at, () -> x.submit(0, 0, 5));
-            }
-            x.edit(i, whole);
-        }
-        int[] keys = {4, 16};
-        for (int tag : new int[] {0, 1, 2026, 2027 - 49, 49 + 2027, 49 - 2027, 2028, -1}) {
-            int[] forged = Chains.forge(keys, 77, 1, 2, tag);
-            int[] numbers = Arrays.copyOf(forged, 4);
-            setDraft(x, numbers);
-            due.illegalArgument("submit of a chain with tag " + tag, () -> x.submit(0, 0, forged[4]));
-            refused("a chain with tag " + tag, stranger(77, keys, forged[4], numbers));
-        }
-        setDraft(x, Chains.sign(keys, 77, 5, 1, 2));
-        due.is("submit of the numbers put back", x.submit(0, 0, 5), 1);
-    }
-
-    /** A challenge or response may be 0 and 1012; a response of 1013 more is none, though its powers are the same. */
-    private static void edgesOfGoodNumbers() {
-        for (int i : new int[] {0, 2, 3}) {
-            for (int edge : new int[] {0, 1012}) {
-                int motion = motionWith(i, edge);
-                RingPetition x = pair();
-                x.sign(0, 0, 0, 1, motion);
-                due.is("number " + i + " of the draft", x.draft(i), edge);
-                for (int v : new int[] {edge + 1013, edge - 1013, edge + 1024, edge - 1024}) {
-                    x.edit(i, v);
-                    due.illegalArgument("submit with " + v + " for " + edge, () -> x.submit(0, 0, motion));
-                    int[] numbers = {x.draft(0), x.draft(1), x.draft(2), x.draft(3)};
-                    refused(v + " for " + edge, stranger(77, new int[] {4, 16}, motion, numbers));
-                }
-                x.edit(i, edge);
-                due.is("submit with " + edge + " as number " + i, x.submit(0, 0, motion), 1);
-            }
-        }
-    }
-
-    /** A motion for which the first of the pair signs with v as number i. */
-    private static int motionWith(int i, int v) {
-        for (int motion = 0; motion < 100000; motion++) {
-            if (Chains.sign(new int[] {4, 16}, 77, motion, 0, 1)[i] == v) {
-                return motion;
-            }
-        }
-        throw new AssertionError("no motion gives " + v + " as number " + i);
-    }
-
     private static void count() {
         RingPetition x = dozen();
         x.topic(6);
@@ -497,22 +428,6 @@ public final class PromiseTest {
         }
     }
 
-    /** Two good signatures of one tag, which spoil() makes possible. */
-    private static void recountOfEqualTags() {
-        RingPetition x = dozen();
-        signAs(x, 1, 0);
-        signAs(x, 2, 0);
-        int tag = x.sign(0, 0, 0, 1, 1);
-        x.spoil(0, 0, 1, 4);
-        due.is("submit with a tag that was spoiled", x.submit(0, 0, 1), 3);
-        due.is("recount of the spoiled one", x.recount(0), -1);
-        x.spoil(0, 0, 1, tag);
-        due.is("recount of two good ones with a tag", x.recount(0), -3);
-        due.is("count of them", x.count(0), 3);
-        due.is("export of them", x.export(0), 2 + 3 * 16);
-        refused("two good ones with a tag", x);
-    }
-
     private static void spoil() {
         RingPetition x = dozen();
         x.ring(3);
@@ -588,21 +503,6 @@ public final class PromiseTest {
         due.is("export of a closed one", x.export(1), 10);
         int[] numbers = Chains.sign(Chains.keys(1, 2), MIN, -7, 1, 2);
         bundleIs("export of a closed one", x, MIN, 1, 2, 4, 16, -7, numbers[0], numbers[1], numbers[2], numbers[3]);
-    }
-
-    private static void exportOfMost() {
-        RingPetition x = dozen();
-        for (int secret = 3; secret <= 10; secret++) {
-            signAs(x, secret, MAX);
-        }
-        due.is("export of most", x.export(0), 130);
-        List<Integer> ints = head(5, 8);
-        for (int secret = 3; secret <= 10; secret++) {
-            int[] keys = secret <= 6 ? Chains.keys(1, 2, 3, 4, 5, 6) : Chains.keys(7, 8, 9, 10, 11, 12);
-            ints.addAll(Reference.bundled(keys, MAX, Chains.sign(keys, 5, MAX, (secret - 1) % 6, secret)));
-        }
-        bundleIs("export of most", x, ints.stream().mapToInt(Integer::intValue).toArray());
-        due.is("check of most", x.check(), 8);
     }
 
     private static void bundle() {
@@ -721,63 +621,5 @@ public final class PromiseTest {
         due.is("check() of rings of two to six", x.check(), 5);
         due.illegalArgument("check() makes no topic", () -> x.count(0));
         due.illegalArgument("check() makes no ring", () -> x.sign(0, 0, 0, 1, 0));
-    }
-
-    /** Rings that are none, with chains that come back. */
-    private static void checkRefusesRings() {
-        int[] secretOne = {4};
-        refused("a ring of one", stranger(9, secretOne, 0, Chains.sign(secretOne, 9, 0, 0, 1)));
-        int[] seven = Chains.keys(1, 2, 3, 4, 5, 6, 7);
-        refused("a ring of seven", stranger(9, seven, 0, Chains.sign(seven, 9, 0, 3, 4)));
-        int[] twice = {16, 4, 16};
-        refused("a ring with a key twice", stranger(9, twice, 0, Chains.sign(twice, 9, 0, 1, 1)));
-        refused("a ring of one key twice", stranger(9, new int[] {4, 4}, 0, Chains.sign(new int[] {4, 4}, 9, 0, 1, 1)));
-        for (int odd : new int[] {1, 0, 2, 5, 2026, 2027, 2028, 2027 + 16, 16 - 2027, -4, MIN, MAX}) {
-            int[] first = {odd, 4};
-            int[] last = {64, 4, odd};
-            refused("a ring with " + odd + " first", stranger(9, first, 0, Chains.sign(first, 9, 0, 1, 1)));
-            refused("a ring with " + odd + " last", stranger(9, last, 0, Chains.sign(last, 9, 0, 1, 1)));
-        }
-        for (int n : new int[] {0, -1, 33, 198, 199, 200, MIN, MAX}) {
-            RingPetition x = stranger(9, new int[] {4, 16}, 0, Chains.sign(new int[] {4, 16}, 9, 0, 0, 1));
-            due.is("the bundle is good as it is", x.check(), 1);
-            x.poke(2, n);
-            refused("a ring of " + n, x);
-        }
-    }
-
-    private static void checkRefusesCounts() {
-        List<Integer> ints = head(9, 8);
-        for (int secret = 1; secret <= 9; secret++) {
-            int[] keys = Chains.keys(secret, 1000);
-            if (secret == 9) {
-                RingPetition eight = new RingPetition();
-                setBundle(eight, ints);
-                due.is("check() of eight", eight.check(), 8);
-            }
-            ints.addAll(Reference.bundled(keys, secret, Chains.sign(keys, 9, secret, 0, secret)));
-        }
-        RingPetition x = new RingPetition();
-        setBundle(x, ints);
-        refused("nine, of which eight are told", x);
-        for (int told : new int[] {9, 7, 0, -1, 10, MIN, MAX}) {
-            x.poke(1, told);
-            refused("nine, of which " + told + " are told", x);
-        }
-        x.poke(1, 9);
-        x.poke(74, 0);
-        refused("nine and one behind", x);
-        equalTagsAtEnds();
-    }
-
-    private static void equalTagsAtEnds() {
-        List<Integer> ints = head(9, 3);
-        for (int[] secrets : new int[][] {{1, 2}, {3, 2}, {1, 3}}) {
-            int[] keys = Chains.keys(secrets);
-            ints.addAll(Reference.bundled(keys, 0, Chains.sign(keys, 9, 0, 0, secrets[0])));
-        }
-        RingPetition x = new RingPetition();
-        setBundle(x, ints);
-        refused("the first and the last with a tag, of different rings", x);
     }
 }

@@ -1,5 +1,3 @@
-import java.lang.reflect.InvocationTargetException;
-import java.lang.reflect.Method;
 import java.util.ArrayList;
 import java.util.Arrays;
 import java.util.List;
@@ -36,8 +34,6 @@ public final class RandomRunsTest {
         "cut", "cut IllegalArgumentException",
         "check", "check IllegalArgumentException"};
 
-    private static final int[] SECRET_OF_KEY = secretsOfKeys();
-
     private final Due due;
     private final Random random;
     private final Map<String, Integer> ends;
@@ -56,7 +52,7 @@ public final class RandomRunsTest {
         this.name = "run " + seed + ", call ";
     }
 
-    public static void main(String[] args) throws ReflectiveOperationException {
+    public static void main(String[] args) {
         Due due = new Due();
         Map<String, Integer> ends = new TreeMap<>();
         for (int run = 0; run < RUNS; run++) {
@@ -68,15 +64,7 @@ public final class RandomRunsTest {
         due.finish("RandomRunsTest");
     }
 
-    private static int[] secretsOfKeys() {
-        int[] secrets = new int[Chains.P];
-        for (int secret = 1; secret < Chains.Q; secret++) {
-            secrets[Chains.power(Chains.G, secret)] = secret;
-        }
-        return secrets;
-    }
-
-    private void run() throws ReflectiveOperationException {
+    private void run() {
         for (int i = 2 + random.nextInt(11); i > 0; i--) {
             newMember();
         }
@@ -96,7 +84,7 @@ public final class RandomRunsTest {
         }
     }
 
-    private void anyCall() throws ReflectiveOperationException {
+    private void anyCall() {
         switch (random.nextInt(24)) {
             case 0 -> oneOfMany();
             case 1 -> call("key", oddOr(random.nextInt(1015)));
@@ -120,7 +108,7 @@ public final class RandomRunsTest {
     }
 
     /** The calls that are refused for good once there are enough, or that end a topic. */
-    private void oneOfMany() throws ReflectiveOperationException {
+    private void oneOfMany() {
         switch (random.nextInt(7)) {
             case 0 -> newMember();
             case 1 -> call("member", oddOr(random.nextInt(2030)));
@@ -131,31 +119,31 @@ public final class RandomRunsTest {
         }
     }
 
-    private void newMember() throws ReflectiveOperationException {
+    private void newMember() {
         call("member", reference.key(1 + random.nextInt(random.nextBoolean() ? 15 : 1012)));
     }
 
     /** Signs as a member should, and most often submits. */
-    private void signWell() throws ReflectiveOperationException {
+    private void signWell() {
         lastRing = random.nextInt(reference.rings.size());
         lastTopic = random.nextInt(reference.topics.size());
         lastMotion = someMotion();
         int[] keys = reference.rings.get(lastRing);
         int place = random.nextInt(keys.length);
-        call("sign", lastRing, lastTopic, place, SECRET_OF_KEY[keys[place]], lastMotion);
+        call("sign", lastRing, lastTopic, place, Chains.secret(keys[place]), lastMotion);
         if (random.nextInt(4) != 0) {
             call("submit", lastRing, lastTopic, lastMotion);
         }
     }
 
-    private void editDraft() throws ReflectiveOperationException {
+    private void editDraft() {
         int i = random.nextInt(reference.draft.length + 2) - 1;
         boolean within = i >= 0 && i < reference.draft.length;
         call("edit", i, within ? near(reference.draft[i]) : 5);
     }
 
     /** Spoils a number, and half of the times mends it behind a recount. */
-    private void spoilStored() throws ReflectiveOperationException {
+    private void spoilStored() {
         int topic = someTopic();
         int k = random.nextInt(9) - 1;
         int i = random.nextInt(10) - 1;
@@ -174,12 +162,12 @@ public final class RandomRunsTest {
         }
     }
 
-    private void exportAndCheck() throws ReflectiveOperationException {
+    private void exportAndCheck() {
         call("export", someTopic());
         call("check");
     }
 
-    private void pokeBundle() throws ReflectiveOperationException {
+    private void pokeBundle() {
         int i = random.nextInt(reference.bundle.size() + 3) - 1;
         boolean within = i >= 0 && i < reference.bundle.size();
         int whole = within ? reference.bundle.get(i) : 0;
@@ -190,13 +178,13 @@ public final class RandomRunsTest {
         }
     }
 
-    private void cutBundle() throws ReflectiveOperationException {
+    private void cutBundle() {
         call("cut", random.nextInt(reference.bundle.size() + 3) - 1);
         call("check");
     }
 
     /** A bundle of rings whose keys nobody here has, at times with a fault. */
-    private void foreignBundle() throws ReflectiveOperationException {
+    private void foreignBundle() {
         int signatures = 1 + random.nextInt(3);
         int value = oddOr(random.nextInt());
         List<Integer> ints = new ArrayList<>(List.of(value, signatures));
@@ -231,7 +219,7 @@ public final class RandomRunsTest {
 
     private int someSecret() {
         int member = random.nextInt(reference.members.size());
-        return random.nextInt(4) == 0 ? odd() : SECRET_OF_KEY[reference.members.get(member)];
+        return random.nextInt(4) == 0 ? odd() : Chains.secret(reference.members.get(member));
     }
 
     private int someMotion() {
@@ -252,15 +240,14 @@ public final class RandomRunsTest {
         return all[random.nextInt(all.length)];
     }
 
-    private void call(String method, int... args) throws ReflectiveOperationException {
+    private void call(String method, int... args) {
         if (calls == CALLS) {
             return;
         }
         calls++;
-        String want = answer(reference, method, args);
-        String got = answer(program, method, args);
-        due.is(name + calls + ": " + method + Arrays.toString(args) + " answered " + got + ", due is " + want
-                + "; their likeness", got.equals(want), true);
+        String want = Calls.answer(reference, method, args);
+        String got = Calls.answer(program, method, args);
+        due.same(name + calls + ": " + method + Arrays.toString(args), got, want);
         ends.merge(method + endOf(method, want), 1, Integer::sum);
     }
 
@@ -269,24 +256,5 @@ public final class RandomRunsTest {
             return " " + answer;
         }
         return method.equals("recount") && answer.startsWith("-") ? " -" : "";
-    }
-
-    private static String answer(Object one, String name, int[] args) throws ReflectiveOperationException {
-        Class<?>[] types = new Class<?>[args.length];
-        Object[] values = new Object[args.length];
-        for (int i = 0; i < args.length; i++) {
-            types[i] = int.class;
-            values[i] = args[i];
-        }
-        Method method = one.getClass().getMethod(name, types);
-        try {
-            Object answer = method.invoke(one, values);
-            if (answer instanceof Boolean yes) {
-                return yes ? "1" : "0";
-            }
-            return String.valueOf(answer);
-        } catch (InvocationTargetException e) {
-            return e.getCause().getClass().getSimpleName();
-        }
     }
 }
