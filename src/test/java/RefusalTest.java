@@ -64,12 +64,16 @@ public final class RefusalTest {
     }
 
     private void numbersOfBusy() {
-        refusesEach(ARGUMENT, "busy", BUSY, " member 4; member 16; member 64; member 1; member 0; member 2;"
-                + " member 2026; member 2027; member 2031; member -2023; member MIN; member MAX; key 0; key -1;"
-                + " key 1013; key MIN; key MAX; ring 0; ring 1; ring 4; ring 8; ring 9; ring 11; ring 15; ring 4096; ring -1; ring MIN;"
-                + " ring -2147483645; ring MAX; base 3; base -1; base MIN; base MAX; count 3; count -1; count MIN;"
-                + " count MAX; seen 3; seen -1; seen MIN; seen MAX; recount 3; recount -1; recount MIN; recount MAX;"
-                + " close 3; close -1; close MIN; close MAX; export 3; export -1; export MIN; export MAX");
+        refusesEach(ARGUMENT, "busy", BUSY, " member 4; member 16; member 64; member 1; member 0; member 2; member 2026;"
+                + " member 2027; member 2031; member -2023; member MIN; member MAX");
+        refusesEach(ARGUMENT, "busy", BUSY, " key 0; key -1; key 1013; key MIN; key MAX");
+        refusesEach(ARGUMENT, "busy", BUSY, " ring 0; ring 1; ring 4; ring 8; ring 9; ring 11; ring 15; ring 4096;"
+                + " ring -1; ring MIN; ring -2147483645; ring MAX");
+        for (String call : new String[] {"base", "count", "seen", "recount", "close", "export"}) {
+            for (String topic : new String[] {"3", "-1", "6", "MIN", "MAX"}) {
+                refusesEach(ARGUMENT, "busy", BUSY, " " + call + " " + topic);
+            }
+        }
         refusesEach(STATE, "busy", BUSY, " close 1");
     }
 
