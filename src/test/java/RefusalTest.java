@@ -64,8 +64,8 @@ public final class RefusalTest {
     }
 
     private void numbersOfBusy() {
-        refusesEach(ARGUMENT, "busy", BUSY, " member 4; member 16; member 64; member 1; member 0; member 2; member 2026;"
-                + " member 2027; member 2031; member -2023; member MIN; member MAX");
+        refusesEach(ARGUMENT, "busy", BUSY, " member 4; member 16; member 64; member 1; member 0; member 2;"
+                + " member 2026; member 2027; member 2031; member -2023; member MIN; member MAX");
         refusesEach(ARGUMENT, "busy", BUSY, " key 0; key -1; key 1013; key MIN; key MAX");
         refusesEach(ARGUMENT, "busy", BUSY, " ring 0; ring 1; ring 4; ring 8; ring 9; ring 11; ring 15; ring 4096;"
                 + " ring -1; ring MIN; ring -2147483645; ring MAX");
