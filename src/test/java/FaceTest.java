@@ -6,14 +6,21 @@ import java.util.HashSet;
 import java.util.Set;
 import java.util.TreeSet;
 
-/** The class has the document's face and no other member that can be seen from outside. */
+/** The class has the document's face, with its exceptions, and no other member that can be seen from outside. */
 public final class FaceTest {
+    private static final String ARGUMENT = " throws IllegalArgumentException";
+    private static final String STATE = " throws IllegalStateException";
+    private static final String BOUNDS = " throws IndexOutOfBoundsException";
+    private static final String BOTH = ARGUMENT + STATE;
+
     private static final Set<String> FACE = Set.of(
-            "int member(int)", "int key(int)", "int ring(int)", "int topic(int)", "int base(int)",
-            "int sign(int,int,int,int,int)", "int draft(int)", "void edit(int,int)", "int submit(int,int,int)",
-            "int count(int)", "boolean seen(int)", "int recount(int)", "void spoil(int,int,int,int)",
-            "int close(int)", "int export(int)", "int bundle(int)", "void poke(int,int)", "void cut(int)",
-            "int check()");
+            "int member(int)" + BOTH, "int key(int)" + ARGUMENT, "int ring(int)" + BOTH, "int topic(int)" + STATE,
+            "int base(int)" + ARGUMENT, "int sign(int,int,int,int,int)" + ARGUMENT, "int draft(int)" + BOUNDS,
+            "void edit(int,int)" + BOUNDS, "int submit(int,int,int)" + BOTH + " throws UnsupportedOperationException",
+            "int count(int)" + ARGUMENT, "boolean seen(int)" + ARGUMENT, "int recount(int)" + ARGUMENT,
+            "void spoil(int,int,int,int)" + ARGUMENT + BOUNDS, "int close(int)" + BOTH, "int export(int)" + ARGUMENT,
+            "int bundle(int)" + BOUNDS, "void poke(int,int)" + BOUNDS, "void cut(int)" + ARGUMENT,
+            "int check()" + ARGUMENT);
 
     public static void main(String[] args) {
         Due due = new Due();
@@ -70,6 +77,10 @@ public final class FaceTest {
         for (int i = 0; i < method.getParameterCount(); i++) {
             text.append(i == 0 ? "" : ",").append(method.getParameterTypes()[i].getSimpleName());
         }
-        return text.append(')').toString();
+        text.append(')');
+        for (Class<?> exception : method.getExceptionTypes()) {
+            text.append(" throws ").append(exception.getSimpleName());
+        }
+        return text.toString();
     }
 }
